@@ -1,0 +1,169 @@
+/** Promise 5, and what promise 4 answers for a fault. */
+public final class FaultTest {
+    private static final Check CHECK = new Check("FaultTest");
+
+    public static void main(String[] args) {
+        findsCharacters();
+        findsNumbers();
+        findsCounts();
+        findsBounds();
+        findsRoom();
+        findsTheFirst();
+        tellsTheLatest();
+        CHECK.finish();
+    }
+
+    private static void fault(String text, int fault, int place) {
+        MappingDesk desk = new MappingDesk();
+        CHECK.due("read(1) of " + text, Check.read(desk, 1, text), -2 - place);
+        CHECK.due("fault() of " + text, desk.fault(), fault);
+        CHECK.due("size(1) then", desk.size(1), 0);
+    }
+
+    private static void good(String text, int segments) {
+        MappingDesk desk = new MappingDesk();
+        CHECK.due("read(1) of " + text, Check.read(desk, 1, text), segments);
+        CHECK.due("fault() of " + text, desk.fault(), 0);
+        CHECK.due("size(1) then", desk.size(1), segments);
+    }
+
+    private static void findsCharacters() {
+        String allowed = "ABCDEFGHIJKLMNOPQRSTUVWXYZabcdefghijklmnopqrstuvwxyz0123456789+/,;";
+        for (int character = 0; character < 256; character++) {
+            if (allowed.indexOf(character) < 0) {
+                fault("A;" + (char) character, 1, 2);
+            }
+        }
+        fault(" ", 1, 0);
+        fault("A,A\n", 1, 3);
+        fault("A;=,A", 1, 2);
+    }
+
+    private static void findsNumbers() {
+        fault("g", 2, 1);
+        fault("AAAAg", 2, 5);
+        fault("g,A", 2, 1);
+        fault("A;Agg;", 2, 5);
+        good("gggggggA,A", 2);
+        // +/////D and //////D are 2147483647 without and with the sign: large, but numbers.
+        fault("+/////D", 4, 0);
+        fault("//////D", 4, 0);
+        fault("A+/////D", 3, 0);
+        fault("+/////DgggA", 3, 0);
+        fault("+/////jggA", 4, 0);
+        fault("ggggggE", 2, 0);
+        fault("hgggggE", 2, 0);
+        fault("ggggggQ", 2, 0);
+        fault("gggggggB", 2, 0);
+        fault("A,ggggggE", 2, 2);
+        fault("AAggggggE,!", 2, 2);
+        fault("AAggggggggggggggggggggggggB,!", 2, 2);
+        fault("hggggggggggE", 2, 0);
+        fault("A;AAggggggkggggggA;", 2, 4);
+    }
+
+    private static void findsCounts() {
+        fault("AA", 3, 0);
+        fault("AAA", 3, 0);
+        fault("A,AA;A", 3, 2);
+        fault("AAAAAA", 3, 0);
+        fault(";A,AAAAAAAAAAAA,A", 3, 3);
+        good("A,AAAA,AAAAA", 3);
+        fault(",", 3, 0);
+        fault(",A", 3, 0);
+        fault("A,", 3, 2);
+        fault("A,,A", 3, 2);
+        fault("A,;A", 3, 2);
+        fault(";,A", 3, 1);
+        fault("A;,", 3, 2);
+    }
+
+    private static void findsBounds() {
+        fault("D", 4, 0);
+        fault("C,D", 4, 2);
+        fault("C;D", 4, 2);
+        fault("gAAADA", 4, 0);
+        fault("ADAA", 4, 0);
+        fault("AADA", 4, 0);
+        fault("AAAD", 4, 0);
+        fault("AAAAD", 4, 0);
+        good("AmGAA", 1);
+        fault("AoGAA", 4, 0);
+        good("AAAAmG", 1);
+        fault("AAAAoG", 4, 0);
+        good("AA+jh9BA", 1);
+        fault("AAgkh9BA", 4, 0);
+        good("AAA+jh9B", 1);
+        fault("AAAgkh9B", 4, 0);
+        good("+jh9B", 1);
+        fault("gkh9B", 4, 0);
+        fault("+jh9B,A,C", 4, 8);
+        fault("+jh9BmG+jh9B+jh9BmG,A+/////D+/////D+/////D+/////D", 4, 20);
+        fault("AmGAA,A,ACAA", 4, 8);
+        fault("AmGAA;ACAA", 4, 6);
+        fault("AAAAmG,AAAA,AAAAC", 4, 12);
+        fault("AAAAC,AAAAF", 4, 6);
+    }
+
+    private static void findsRoom() {
+        String most = "A" + ",A".repeat(299);
+        good(most, 300);
+        good(most + ";;", 300);
+        fault(most + ",A", 5, 600);
+        fault(most + ";A", 5, 600);
+        fault(most + ";;AAAAA,!", 5, 601);
+        fault(most + ",AA", 3, 600);
+        fault(most + ",D", 4, 600);
+        fault(most + ",", 3, 600);
+        fault(most + ",g", 2, 601);
+        fault(most + ",A!", 1, 601);
+        String lines = ";".repeat(199);
+        good(lines, 0);
+        good(lines + "A,A", 2);
+        fault(lines + ";", 5, 199);
+        fault(lines + ";;", 5, 199);
+        fault(lines + "A;A", 5, 200);
+        fault(lines + "AA;", 3, 199);
+        fault(lines + "A,;", 3, 201);
+        fault(lines + "g;", 2, 200);
+        fault(lines + "D;", 4, 199);
+    }
+
+    private static void findsTheFirst() {
+        fault("AA!", 1, 2);
+        fault("D!", 1, 1);
+        fault("DA,!", 3, 0);
+        fault("D,!", 4, 0);
+        fault("g!", 1, 1);
+        fault("ggggggggggg!", 1, 11);
+        fault("ggggggggggC!", 2, 0);
+        fault("DDg", 2, 3);
+        fault("DD,g", 3, 0);
+        fault("AAAAAAggggggggggC", 2, 6);
+        fault("A,,!", 3, 2);
+        fault("!,D", 1, 0);
+    }
+
+    private static void tellsTheLatest() {
+        MappingDesk desk = new MappingDesk();
+        CHECK.due("fault() at first", desk.fault(), 0);
+        Check.read(desk, 0, "AA");
+        CHECK.due("fault()", desk.fault(), 3);
+        CHECK.due("fault() again", desk.fault(), 3);
+        desk.put(0, 0, 0, -1, 0, 0, 0);
+        desk.clear(0);
+        desk.compose();
+        desk.write(0);
+        desk.feed(0, 0, 0, 0, 0);
+        CHECK.due("fault() after other calls", desk.fault(), 3);
+        desk.end(0);
+        Check.read(desk, 1, "D");
+        CHECK.due("fault() of the other table", desk.fault(), 4);
+        Check.read(desk, 1, "A");
+        CHECK.due("fault() of a good read", desk.fault(), 0);
+        Check.read(desk, 1, "!");
+        CHECK.due("fault()", desk.fault(), 1);
+        Check.read(desk, 2, "!");
+        CHECK.due("fault() of a read without a table", desk.fault(), 0);
+    }
+}
