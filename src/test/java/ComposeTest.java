@@ -4,6 +4,7 @@ public final class ComposeTest {
 
     public static void main(String[] args) {
         putsOneBehindTheOther();
+        keepsNameZero();
         composesOfNothing();
         goesOnAndOn();
         CHECK.finish();
@@ -41,6 +42,20 @@ public final class ComposeTest {
         desk.write(0);
         CHECK.due("read(0) of what was written", Check.read(desk, 0, Check.written(desk, 0)), 9);
         CHECK.due("table 1 stays", Check.written(desk, 1), ";;;;;UOsE4rBiB,UCUoG,U;ACUoGE,ACCCC");
+    }
+
+    private static void keepsNameZero() {
+        MappingDesk desk = new MappingDesk();
+        desk.put(0, 0, 0, 0, 0, 0, 0);
+        desk.put(1, 0, 0, 0, 0, 0, 5);
+        CHECK.due("compose()", desk.compose(), 1);
+        CHECK.due("its own name 0", desk.ask(0, 0, 0, 3), 0);
+        desk.clear(0);
+        desk.clear(1);
+        desk.put(0, 0, 0, 0, 0, 0, -1);
+        desk.put(1, 0, 0, 0, 0, 0, 0);
+        CHECK.due("compose()", desk.compose(), 1);
+        CHECK.due("name 0 behind", desk.ask(0, 0, 0, 3), 0);
     }
 
     private static void composesOfNothing() {

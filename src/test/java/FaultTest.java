@@ -9,6 +9,7 @@ public final class FaultTest {
         findsBounds();
         findsRoom();
         findsTheFirst();
+        leavesNothingBehind();
         tellsTheLatest();
         CHECK.finish();
     }
@@ -142,6 +143,20 @@ public final class FaultTest {
         fault("AAAAAAggggggggggC", 2, 6);
         fault("A,,!", 3, 2);
         fault("!,D", 1, 0);
+    }
+
+    // Whatever a read was at when it came upon a fault, the next one begins anew.
+    private static void leavesNothingBehind() {
+        String[] faulty = {"CCCCCg", "ggg!", "AA!", "gggggggggB", "A,", "A,!", ";;;!", "CCCCC,CCCCC,D", "C,AA", "ggggggE"};
+        for (String text : faulty) {
+            MappingDesk desk = new MappingDesk();
+            CHECK.due("read(0) of " + text, Check.read(desk, 0, text) < -1, true);
+            CHECK.due("read(0) of ;A behind " + text, Check.read(desk, 0, ";A"), 1);
+            CHECK.due("read(0) of " + text, Check.read(desk, 0, text) < -1, true);
+            CHECK.due("read(1) of CAAAC behind " + text, Check.read(desk, 1, "CAAAC"), 1);
+            CHECK.due("written", Check.written(desk, 0), ";A");
+            CHECK.due("written", Check.written(desk, 1), "CAAAC");
+        }
     }
 
     private static void tellsTheLatest() {

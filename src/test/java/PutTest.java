@@ -26,9 +26,13 @@ public final class PutTest {
         CHECK.due("put first", desk.put(0, 0, 0, 7, 0, 0, -1), 7);
         // sources 7; 3; 2 4 5; 1; 6
         CHECK.due("written", Check.written(desk, 0), "AOAA,SJAA;EDAA,AEAA,ACAA,GJAA;AKAA");
+        CHECK.due("all of a segment moves on", desk.put(0, 0, 1, 8, 1, 2, 3), 8);
+        CHECK.due("all of a segment moves on", desk.put(0, 0, 0, 9, 4, 5, 6), 9);
+        CHECK.due("at 0, 0", Check.asked(desk, 0, 0, 0), "9 4 5 6 1");
+        CHECK.due("at 0, 1", Check.asked(desk, 0, 0, 1), "8 1 2 3 2");
         CHECK.due("size(1)", desk.size(1), 0);
         CHECK.due("put in table 1", desk.put(1, 0, 0, 0, 0, 0, 0), 1);
-        CHECK.due("size(0)", desk.size(0), 7);
+        CHECK.due("size(0)", desk.size(0), 9);
     }
 
     private static void leavesOutWhatIsBelowZero() {
