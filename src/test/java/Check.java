@@ -83,6 +83,35 @@ final class Check {
         return text(desk, desk.write(table));
     }
 
+    /** The whole text, up to the first place that there is none of. */
+    static String wholeText(MappingDesk desk) {
+        StringBuilder text = new StringBuilder();
+        for (int i = 0; fetch(desk, i) != THROWS; i++) {
+            text.append((char) fetch(desk, i));
+        }
+        return text.toString();
+    }
+
+    /**
+     * All that a desk holds, as its answers show it: the text, the fault, both tables, and the tape by
+     * what a read of it makes of table 1. The desk is another one afterwards.
+     */
+    static String state(MappingDesk desk) {
+        String state = "text " + wholeText(desk) + " fault " + desk.fault();
+        state += " zero " + desk.size(0) + " " + written(desk, 0);
+        state += " one " + desk.size(1) + " " + written(desk, 1);
+        return state + " tape " + desk.read(1) + " " + desk.fault() + " " + written(desk, 1);
+    }
+
+    /** The text of one segment of these numbers. */
+    static String segment(long... numbers) {
+        StringBuilder text = new StringBuilder();
+        for (long number : numbers) {
+            text.append(Model.numberText(number));
+        }
+        return text.toString();
+    }
+
     /** All that a place is told: source, line, column, name, number. */
     static String asked(MappingDesk desk, int table, int line, int column) {
         StringBuilder all = new StringBuilder();

@@ -7,6 +7,14 @@ public final class ComposeTest {
         keepsNameZero();
         composesOfNothing();
         goesOnAndOn();
+        asksAheadAtAndBehindAPlace();
+        asksLinesThatNoTableHas();
+        takesNamesAtTheirBounds();
+        looksAtNoSource();
+        leavesWhatTellsNothing();
+        keepsPlacesAndOrder();
+        composesFullTables();
+        changesNothingElse();
         CHECK.finish();
     }
 
@@ -87,5 +95,114 @@ public final class ComposeTest {
         CHECK.due("compose()", desk.compose(), 0);
         CHECK.due("four times", Check.asked(desk, 0, 0, 0), "-1 -1 -1 -1 -1");
         CHECK.due("compose()", desk.compose(), 0);
+    }
+
+    // "1 is asked for its source's line and column": a step to either side of what 1 has
+    private static void asksAheadAtAndBehindAPlace() {
+        for (int column : new int[] {0, 1, 999998, 999999}) {
+            for (int asked = column - 1; asked <= column + 1; asked++) {
+                if (asked < 0 || asked > 999999) {
+                    continue;
+                }
+                boolean isTold = asked >= column;
+                MappingDesk desk = new MappingDesk();
+                desk.put(1, 5, column, 7, 8, 9, 10);
+                desk.put(0, 2, 3, 1, 5, asked, -1);
+                CHECK.due("compose() at column " + asked + " of " + column, desk.compose(), isTold ? 1 : 0);
+                CHECK.due("asked then", Check.asked(desk, 0, 2, 3), isTold ? "7 8 9 10 0" : "-1 -1 -1 -1 -1");
+                CHECK.due("size(0) then", desk.size(0), 1);
+                CHECK.due("table 1 stays", Check.asked(desk, 1, 5, column), "7 8 9 10 0");
+            }
+        }
+    }
+
+    private static void asksLinesThatNoTableHas() {
+        for (int line : new int[] {0, 1, 197, 198, 199, 200, 201, 999998, 999999}) {
+            MappingDesk desk = new MappingDesk();
+            desk.put(1, 0, 0, 10, 1, 1, 1);
+            desk.put(1, 198, 0, 20, 2, 2, 2);
+            desk.put(1, 199, 0, 30, 3, 3, 3);
+            desk.put(0, 0, 0, 0, line, 999999, -1);
+            int due = line == 0 ? 10 : line == 198 ? 20 : line == 199 ? 30 : MappingDesk.NONE;
+            CHECK.due("compose() at line " + line, desk.compose(), due < 0 ? 0 : 1);
+            CHECK.due("source then", desk.ask(0, 0, 0, 0), due);
+        }
+    }
+
+    // "with its own name, if it has one, else with that"
+    private static void takesNamesAtTheirBounds() {
+        for (int own : new int[] {-1, 0, 1, 98, 99}) {
+            for (int that : new int[] {-1, 0, 1, 98, 99}) {
+                MappingDesk desk = new MappingDesk();
+                desk.put(0, 0, 0, 0, 0, 0, own);
+                desk.put(1, 0, 0, 99, 999999, 999999, that);
+                CHECK.due("compose() with names " + own + " and " + that, desk.compose(), 1);
+                int name = own < 0 ? that : own;
+                CHECK.due("asked then", Check.asked(desk, 0, 0, 0), "99 999999 999999 " + name + " 0");
+                CHECK.due("that name stays", desk.ask(1, 0, 0, 3), that);
+            }
+        }
+    }
+
+    // Nothing is said of the source's number there: the line and column alone are asked for.
+    private static void looksAtNoSource() {
+        for (int source : new int[] {0, 1, 98, 99}) {
+            MappingDesk desk = new MappingDesk();
+            desk.put(0, 0, 0, source, 0, 0, -1);
+            desk.put(1, 0, 0, 42, 0, 0, -1);
+            CHECK.due("compose() with source " + source, desk.compose(), 1);
+            CHECK.due("source then", desk.ask(0, 0, 0, 0), 42);
+        }
+    }
+
+    // "else it tells nothing; others stay"
+    private static void leavesWhatTellsNothing() {
+        MappingDesk desk = new MappingDesk();
+        desk.put(0, 0, 0, -1, 0, 0, 0);
+        desk.put(0, 0, 1, 0, 9, 9, 5);
+        desk.put(0, 0, 2, -1, 0, 0, 0);
+        desk.put(1, 0, 0, 42, 1, 1, 1);
+        CHECK.due("compose()", desk.compose(), 0);
+        CHECK.due("written", Check.written(desk, 0), "A,C,C");
+        CHECK.due("compose() again", desk.compose(), 0);
+        CHECK.due("written", Check.written(desk, 0), "A,C,C");
+    }
+
+    private static void keepsPlacesAndOrder() {
+        MappingDesk desk = new MappingDesk();
+        // What comes behind turns the sources round; the segments' own places stay as they were.
+        desk.put(0, 0, 0, 0, 0, 0, -1);
+        desk.put(0, 0, 0, 0, 0, 1, -1);
+        desk.put(0, 199, 999999, 0, 0, 2, -1);
+        desk.put(1, 0, 0, 3, 0, 0, -1);
+        desk.put(1, 0, 1, 2, 0, 0, -1);
+        desk.put(1, 0, 2, 1, 0, 0, -1);
+        CHECK.due("compose()", desk.compose(), 3);
+        CHECK.due("written", Check.written(desk, 0), "AGAA,ADAA" + ";".repeat(199) + "+jh9BDAA");
+    }
+
+    private static void composesFullTables() {
+        MappingDesk desk = new MappingDesk();
+        CHECK.due("read(0)", Check.read(desk, 0, "AAAA" + ",CAAC".repeat(299)), 300);
+        CHECK.due("read(1)", Check.read(desk, 1, "A" + ",CACA".repeat(299)), 300);
+        CHECK.due("compose()", desk.compose(), 299);
+        CHECK.due("size(0)", desk.size(0), 300);
+        CHECK.due("size(1)", desk.size(1), 300);
+        CHECK.due("the first", Check.asked(desk, 0, 0, 0), "-1 -1 -1 -1 -1");
+        CHECK.due("the second", Check.asked(desk, 0, 0, 1), "0 1 0 -1 1");
+        CHECK.due("the last but one", Check.asked(desk, 0, 0, 298), "0 298 0 -1 298");
+        CHECK.due("the last", Check.asked(desk, 0, 0, 299), "0 299 0 -1 299");
+    }
+
+    private static void changesNothingElse() {
+        MappingDesk desk = new MappingDesk();
+        Check.read(desk, 0, "AAAA,CAAC");
+        Check.read(desk, 1, "AGEC");
+        desk.write(0);
+        Check.read(desk, 0, "AA");
+        Check.tape(desk, "E,E");
+        CHECK.due("compose()", desk.compose(), 2);
+        CHECK.due("state", Check.state(desk),
+                "text AAAA,CAAC fault 3 zero 2 AGEC,CAAA one 1 AGEC tape 2 0 E,E");
     }
 }

@@ -11,6 +11,15 @@ public final class FaultTest {
         findsTheFirst();
         leavesNothingBehind();
         tellsTheLatest();
+        findsNumbersThatEndWithin();
+        findsNumbersAbove2147483647();
+        findsNumbersThatWrapAround();
+        seesALargeNumberAtItsLastCharacter();
+        takesOneFourOrFiveNumbers();
+        findsEmptySegments();
+        findsAColumnLessThanTheOneAhead();
+        findsFaultsInTheirOrder();
+        tellsEachFault();
         CHECK.finish();
     }
 
@@ -180,5 +189,187 @@ public final class FaultTest {
         CHECK.due("fault()", desk.fault(), 1);
         Check.read(desk, 2, "!");
         CHECK.due("fault() of a read without a table", desk.fault(), 0);
+    }
+
+    // "2 a number that ends within (its end)": at a , or a ; or the text's end, from one character on
+    private static void findsNumbersThatEndWithin() {
+        for (int length : new int[] {1, 2, 6, 7, 8, 64, 65}) {
+            String open = "/".repeat(length);
+            for (String behind : new String[] {"", ",", ";", ",A", ";A", ",,", ";;", ",!"}) {
+                fault(open + behind, 2, length);
+                fault("AAAA" + open + behind, 2, 4 + length);
+                fault("AAAAA" + open + behind, 2, 5 + length);
+                fault("A,A;" + open + behind, 2, 4 + length);
+            }
+            good("g".repeat(length) + "A", 1);
+        }
+    }
+
+    // "or whose size is above 2147483647 (its first ..)"
+    private static void findsNumbersAbove2147483647() {
+        String[] numbers = {"8/////D", "9/////D", "+/////D", "//////D", "+/////jA", "//////jgA"};
+        String[] larger = {"ggggggE", "hgggggE", "igggggE", "jgggggE", "ggggggkA", "hgggggkgA", "+/////H", "//////H"};
+        for (String number : numbers) {
+            // No bound lets such a one in, but it is a number.
+            fault(number, 4, 0);
+            fault("A;A,A" + number + "AA", 4, 4);
+            fault("A" + number, 3, 0);
+        }
+        for (String number : larger) {
+            fault(number, 2, 0);
+            fault("A;A,A" + number + "AA", 2, 5);
+            fault("A;A,AAAAA" + number, 2, 9);
+        }
+    }
+
+    // Bits that 32 or 64 bits have no room for, and that would come back at the low end, or be lost.
+    private static void findsNumbersThatWrapAround() {
+        for (int length = 8; length <= 80; length++) {
+            for (char last : new char[] {'B', 'C', 'Q', 'f'}) {
+                fault("g".repeat(length - 1) + last, 2, 0);
+                fault("C" + "h".repeat(length - 1) + last, 2, 1);
+            }
+            good("g".repeat(length - 1) + "A", 1);
+            good("i" + "g".repeat(length - 2) + "A", 1);
+        }
+        for (int length : new int[] {320, 321, 322, 640, 641, 2998, 2999, 3000}) {
+            fault("g".repeat(length - 1) + "C", 2, 0);
+            good("g".repeat(length - 1) + "A", 1);
+        }
+    }
+
+    // "seen at its last character"
+    private static void seesALargeNumberAtItsLastCharacter() {
+        fault("////////", 2, 8);
+        fault("////////!", 1, 8);
+        fault("////////A", 2, 0);
+        fault("////////A!", 2, 0);
+        fault("////////,!", 2, 8);
+        fault("C////////A!", 2, 1);
+        fault("C////////A,!", 2, 1);
+        fault("D,////////A", 4, 0);
+        fault("DD,////////A", 3, 0);
+        fault("D////////A", 2, 1);
+    }
+
+    // "a segment's one, four or five numbers", "3 a segment of none of these many numbers (its first)"
+    private static void takesOneFourOrFiveNumbers() {
+        for (int many = 1; many <= 20; many++) {
+            String segment = "A".repeat(many);
+            String longer = "gA".repeat(many);
+            boolean isGood = many == 1 || many == 4 || many == 5;
+            for (String behind : new String[] {"", ",A", ";", ";A"}) {
+                int others = behind.length() == 2 ? 1 : 0;
+                if (isGood) {
+                    good(segment + behind, 1 + others);
+                    good(longer + behind, 1 + others);
+                    good("A,A;A," + segment + behind, 4 + others);
+                } else {
+                    fault(segment + behind, 3, 0);
+                    fault(longer + behind, 3, 0);
+                    fault("A,A;A," + segment + behind, 3, 6);
+                }
+            }
+        }
+        fault("A".repeat(3000), 3, 0);
+        fault("A," + "A".repeat(2998), 3, 2);
+    }
+
+    // "an empty one between or beside , too: the place of what ends it"
+    private static void findsEmptySegments() {
+        fault(",", 3, 0);
+        fault(",,", 3, 0);
+        fault(",;", 3, 0);
+        fault(",A", 3, 0);
+        fault("A,", 3, 2);
+        fault("A,,", 3, 2);
+        fault("A,;", 3, 2);
+        fault("A,;A", 3, 2);
+        fault("A,,A", 3, 2);
+        fault("AAAA,,A", 3, 5);
+        fault(";,", 3, 1);
+        fault(";,A", 3, 1);
+        fault("A;,A", 3, 2);
+        fault("A;A,", 3, 4);
+        fault("A;A,;", 3, 4);
+        fault("A,A,", 3, 4);
+        // An empty line has no , beside it.
+        good("A;;A", 2);
+        good("A,A;;A,A", 4);
+        good(";A,A;", 2);
+    }
+
+    // "or a column less than the one ahead (the segment's first)"
+    private static void findsAColumnLessThanTheOneAhead() {
+        good("K,A", 2);
+        good("K,B", 2);
+        good("K,C", 2);
+        fault("K,D", 4, 2);
+        fault("K,DAAA", 4, 2);
+        fault("KAAAA,DAAAA", 4, 6);
+        fault("K,A,D", 4, 4);
+        fault("+jh9B,D", 4, 6);
+        fault("+jh9B,/jh9B", 4, 6);
+        fault("+jh9B,//////D", 4, 6);
+        // On another line there is none ahead: 0 is the least.
+        good("K;A", 2);
+        good("K;B", 2);
+        good("K;C", 2);
+        fault("K;D", 4, 2);
+        fault("K;;F", 4, 3);
+    }
+
+    // "characters and numbers one by one (1, 2), and behind a segment's last number 3, 4, 5"
+    private static void findsFaultsInTheirOrder() {
+        String full = "A" + ",A".repeat(299);
+        String lines = ";".repeat(199);
+        // Two faults each; the one that stands first is found first.
+        fault("A!g", 1, 1);
+        fault("A!,AA", 1, 1);
+        fault("AA!", 1, 2);
+        fault("D!", 1, 1);
+        fault(full + ",A!", 1, 601);
+        fault(lines + ";!", 5, 199);
+        fault(lines + "!;", 1, 199);
+        fault("AAg", 2, 3);
+        fault("Dg", 2, 2);
+        fault(full + ",Ag", 2, 602);
+        fault(full + ",AggggggE", 2, 601);
+        fault(lines + "g;", 2, 200);
+        fault("DA,!", 3, 0);
+        fault("DA;g", 3, 0);
+        fault(full + ",DA", 3, 600);
+        fault(full + ",,", 3, 600);
+        fault(full + ",;", 3, 600);
+        fault(lines + "AA;", 3, 199);
+        fault(lines + ",;", 3, 199);
+        fault("D,AA", 4, 0);
+        fault(full + ",D", 4, 600);
+        fault(full + ",AoGAA", 4, 600);
+        fault(lines + "D;", 4, 199);
+        fault(full + ",A,!", 5, 600);
+        fault(full + ";A;g", 5, 600);
+        fault(full + ",A,AA", 5, 600);
+        fault(full + ",A,D", 5, 600);
+        fault(full + lines + ";A", 5, 798);
+        fault(lines + full + ",A;", 5, 799);
+        fault(lines + full + ";", 5, 798);
+    }
+
+    // "The fault of the latest read; 0 for none."
+    private static void tellsEachFault() {
+        String[] texts = {"A", "!", "g", "AA", "D", ";".repeat(200)};
+        for (int first = 0; first <= 5; first++) {
+            for (int second = 0; second <= 5; second++) {
+                MappingDesk desk = new MappingDesk();
+                CHECK.due("fault() ahead of a read", desk.fault(), 0);
+                Check.read(desk, 0, texts[first]);
+                CHECK.due("fault() of the first", desk.fault(), first);
+                Check.tape(desk, texts[second]);
+                CHECK.due("fault() ahead of the second", desk.fault(), first);
+                desk.read(1);
+                CHECK.due("fault() of the second", desk.fault(), second);
+            }
+        }
     }
 }

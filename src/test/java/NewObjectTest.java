@@ -7,6 +7,9 @@ public final class NewObjectTest {
         check.due("size(1)", desk.size(1), 0);
         check.due("fault()", desk.fault(), 0);
         check.due("textAt(0)", Check.fetch(desk, 0), Check.THROWS);
+        check.due("textAt(-1)", Check.fetch(desk, -1), Check.THROWS);
+        check.due("textAt(1)", Check.fetch(desk, 1), Check.THROWS);
+        check.due("end(-1) of an empty tape", desk.end(-1), false);
         check.due("end(1) of an empty tape", desk.end(1), false);
         check.due("end(0) of an empty tape", desk.end(0), true);
         check.due("ask(0, 0, 0, 0)", desk.ask(0, 0, 0, 0), MappingDesk.NONE);
@@ -16,6 +19,8 @@ public final class NewObjectTest {
         check.due("write(1)", desk.write(1), 0);
         check.due("read(0)", desk.read(0), 0);
         check.due("read(1)", desk.read(1), 0);
+
+        check.due("state", Check.state(new MappingDesk()), "text  fault 0 zero 0  one 0  tape 0 0 ");
 
         MappingDesk used = new MappingDesk();
         Check.read(used, 0, "AAAAA");

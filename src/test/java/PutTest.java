@@ -8,6 +8,9 @@ public final class PutTest {
         leavesOutWhatIsBelowZero();
         refusesWhatIsOutOfBounds();
         refusesWhenFull();
+        comesBehindTheOthersOfItsPlace();
+        putsInTables0And1();
+        changesNothingElse();
         CHECK.finish();
     }
 
@@ -79,5 +82,44 @@ public final class PutTest {
         CHECK.due("size(1)", desk.size(1), 300);
         CHECK.due("the last put", Check.asked(desk, 1, 0, 0), "3 4 5 6 1");
         CHECK.due("put in the other", desk.put(0, 0, 0, 3, 4, 5, 6), 1);
+    }
+
+    // "A segment comes behind the others of its place": ahead of a column, a line, one step farther
+    private static void comesBehindTheOthersOfItsPlace() {
+        int[][] around = {{4, 999999}, {5, 4}, {5, 5}, {5, 5}, {5, 6}, {6, 0}, {6, 5}};
+        int[][] places = {{0, 0}, {4, 999999}, {5, 0}, {5, 4}, {5, 5}, {5, 6}, {5, 999999}, {6, 0}, {6, 5}, {6, 6},
+            {199, 999999}};
+        int[] numbers = {0, 1, 1, 2, 4, 5, 5, 6, 7, 7, 7};
+        for (int i = 0; i < places.length; i++) {
+            MappingDesk desk = new MappingDesk();
+            for (int k = 0; k < around.length; k++) {
+                CHECK.due("put " + k, desk.put(0, around[k][0], around[k][1], k, 0, 0, -1), k + 1);
+            }
+            String call = "put at " + places[i][0] + ", " + places[i][1];
+            CHECK.due(call, desk.put(0, places[i][0], places[i][1], 50, 51, 52, 53), 8);
+            CHECK.due("asked after " + call, Check.asked(desk, 0, places[i][0], places[i][1]),
+                    "50 51 52 53 " + numbers[i]);
+        }
+    }
+
+    private static void putsInTables0And1() {
+        for (int table = -2; table <= 3; table++) {
+            MappingDesk desk = new MappingDesk();
+            boolean is = table == 0 || table == 1;
+            CHECK.due("put in " + table, desk.put(table, 0, 0, 0, 0, 0, 0), is ? 1 : MappingDesk.NONE);
+            CHECK.due("put in " + table + " again", desk.put(table, 0, 0, 0, 0, 0, 0), is ? 2 : MappingDesk.NONE);
+            CHECK.due("size(0)", desk.size(0), table == 0 ? 2 : 0);
+            CHECK.due("size(1)", desk.size(1), table == 1 ? 2 : 0);
+        }
+    }
+
+    private static void changesNothingElse() {
+        MappingDesk desk = new MappingDesk();
+        Check.read(desk, 0, "A");
+        desk.write(0);
+        Check.read(desk, 0, "AA");
+        Check.tape(desk, "E,E");
+        CHECK.due("put", desk.put(0, 0, 1, 0, 0, 0, 0), 2);
+        CHECK.due("state", Check.state(desk), "text A fault 3 zero 2 A,CAAAA one 0  tape 2 0 E,E");
     }
 }

@@ -8,6 +8,10 @@ public final class ReadTest {
         replacesTheTable();
         emptiesTheTape();
         reachesItsLimits();
+        readsTheEmptyText();
+        readsEmptyLines();
+        answersEachPlaceOfAFullTape();
+        takesTables0And1();
         CHECK.finish();
     }
 
@@ -97,5 +101,63 @@ public final class ReadTest {
         CHECK.due("3000 characters", Check.read(full, 1, "AgggggggggA".repeat(4) + "g".repeat(2955) + "A"), -2);
         CHECK.due("fault()", full.fault(), 3);
         CHECK.due("one number of 3000 characters", Check.read(full, 1, "i" + "g".repeat(2998) + "A"), 1);
+    }
+
+    // "An empty text is the empty table"
+    private static void readsTheEmptyText() {
+        for (int table = 0; table <= 1; table++) {
+            MappingDesk desk = new MappingDesk();
+            CHECK.due("read of a tape that is empty from the start", desk.read(table), 0);
+            CHECK.due("put", desk.put(table, 0, 0, 1, 1, 1, 1), 1);
+            CHECK.due("put in the other", desk.put(1 - table, 0, 0, 1, 1, 1, 1), 1);
+            CHECK.due("read", Check.read(desk, table, ""), 0);
+            CHECK.due("fault()", desk.fault(), 0);
+            CHECK.due("size", desk.size(table), 0);
+            CHECK.due("the other's size", desk.size(1 - table), 1);
+            CHECK.due("ask", desk.ask(table, 0, 0, 0), MappingDesk.NONE);
+            CHECK.due("read of one character", Check.read(desk, table, "A"), 1);
+            CHECK.due("read", Check.read(desk, table, ""), 0);
+        }
+    }
+
+    // "; at the end, and empty lines, may be"
+    private static void readsEmptyLines() {
+        String[] texts = {";", ";;", "A;", "A;;", ";A", ";A;", ";;A;;", "A;;C", "AAAA;", "AAAAA;;CAAAA;"};
+        String[] written = {"", "", "A", "A", ";A", ";A", ";;A", "A;;C", "AAAA", "AAAAA;;CAAAA"};
+        int[] segments = {0, 0, 1, 1, 1, 1, 1, 2, 1, 2};
+        for (int i = 0; i < texts.length; i++) {
+            MappingDesk desk = new MappingDesk();
+            CHECK.due("read of " + texts[i], Check.read(desk, 0, texts[i]), segments[i]);
+            CHECK.due("fault() of " + texts[i], desk.fault(), 0);
+            CHECK.due("written of " + texts[i], Check.written(desk, 0), written[i]);
+        }
+    }
+
+    // "-2 - the place of the first fault": -2 at place 0, where NONE is -1, down to -3002 at a full tape's end
+    private static void answersEachPlaceOfAFullTape() {
+        for (int place : new int[] {0, 1, 19, 20, 21, 2979, 2980, 2998, 2999}) {
+            MappingDesk desk = new MappingDesk();
+            String text = "g".repeat(place) + "!" + "g".repeat(2999 - place);
+            CHECK.due("a wrong character at " + place, Check.read(desk, 0, text), -2 - place);
+            CHECK.due("fault()", desk.fault(), 1);
+        }
+        MappingDesk desk = new MappingDesk();
+        CHECK.due("3000 without an end", Check.read(desk, 0, "g".repeat(3000)), -3002);
+        CHECK.due("fault()", desk.fault(), 2);
+        CHECK.due("2999 and an end", Check.read(desk, 0, "g".repeat(2999) + "A"), 1);
+        CHECK.due("fault()", desk.fault(), 0);
+    }
+
+    // "NONE for no such table": one step to either side of 0 and 1
+    private static void takesTables0And1() {
+        for (int table = -2; table <= 3; table++) {
+            MappingDesk desk = new MappingDesk();
+            boolean is = table == 0 || table == 1;
+            CHECK.due("read(" + table + ")", Check.read(desk, table, "A,A"), is ? 2 : MappingDesk.NONE);
+            CHECK.due("size(0)", desk.size(0), table == 0 ? 2 : 0);
+            CHECK.due("size(1)", desk.size(1), table == 1 ? 2 : 0);
+            CHECK.due("end(1)", desk.end(1), false);
+            CHECK.due("read(" + table + ") of nothing", desk.read(table), is ? 0 : MappingDesk.NONE);
+        }
     }
 }

@@ -7,7 +7,75 @@ public final class TapeTest {
         keepsThreeThousandBytes();
         endsTheTape();
         feedsBehindTheEnd();
+        feedsUpTo3000AndNoMore();
+        endsAtWhatItHasAndNoMore();
+        endsAgain();
         CHECK.finish();
+    }
+
+    /**
+     * A tape of so many g: one number without an end, so that a read of it answers where it ends, and a
+     * changed byte would be found ahead of that.
+     */
+    private static MappingDesk openNumber(int length) {
+        MappingDesk desk = new MappingDesk();
+        for (int fed = 0; fed < length; fed += 20) {
+            desk.feed(0x67676767, 0x67676767, 0x67676767, 0x67676767, 0x67676767);
+        }
+        desk.end(length);
+        return desk;
+    }
+
+    private static void isOpenNumber(String call, MappingDesk desk, int length) {
+        CHECK.due("read(0) after " + call, desk.read(0), length == 0 ? 0 : -2 - length);
+        CHECK.due("fault() after " + call, desk.fault(), length == 0 ? 0 : 2);
+        CHECK.due("end(1) after the read", desk.end(1), false);
+        CHECK.due("end(0) after the read", desk.end(0), true);
+    }
+
+    // "false, changing nothing, when it would have more than 3000"
+    private static void feedsUpTo3000AndNoMore() {
+        for (int length : new int[] {0, 1, 19, 20, 2960, 2979, 2980, 2981, 2999, 3000}) {
+            boolean hasRoom = length <= 2980;
+            String call = "feed at " + length;
+            MappingDesk desk = openNumber(length);
+            CHECK.due(call, desk.feed(0x67676767, 0x67676767, 0x67676767, 0x67676767, 0x67676767), hasRoom);
+            isOpenNumber(call, desk, hasRoom ? length + 20 : length);
+            desk = openNumber(length);
+            CHECK.due(call, desk.feed(0, 0, 0, 0, 0), hasRoom);
+            if (hasRoom) {
+                CHECK.due("read(0) after " + call, desk.read(0), -2 - length);
+                CHECK.due("fault() after " + call, desk.fault(), 1);
+            } else {
+                CHECK.due("end(" + (length + 1) + ") after " + call, desk.end(length + 1), false);
+                isOpenNumber(call, desk, length);
+            }
+        }
+    }
+
+    // "false, changing nothing, when it has not so many, or n is below 0"
+    private static void endsAtWhatItHasAndNoMore() {
+        for (int length : new int[] {0, 1, 20, 21, 2999, 3000}) {
+            int[] ends = {Integer.MIN_VALUE, -2, -1, 0, 1, length - 1, length, length + 1, length + 20, 3001,
+                Integer.MAX_VALUE};
+            for (int n : ends) {
+                boolean isEnded = n >= 0 && n <= length;
+                String call = "end(" + n + ") of " + length;
+                MappingDesk desk = openNumber(length);
+                CHECK.due(call, desk.end(n), isEnded);
+                isOpenNumber(call, desk, isEnded ? n : length);
+            }
+        }
+    }
+
+    private static void endsAgain() {
+        MappingDesk desk = openNumber(40);
+        CHECK.due("end(30)", desk.end(30), true);
+        CHECK.due("end(31) after end(30)", desk.end(31), false);
+        CHECK.due("end(30) after end(30)", desk.end(30), true);
+        CHECK.due("end(29) after end(30)", desk.end(29), true);
+        CHECK.due("end(30) after end(29)", desk.end(30), false);
+        isOpenNumber("end(29)", desk, 29);
     }
 
     // Every byte of the tape is shown by the place of the one that is no character of a text.

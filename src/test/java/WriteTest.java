@@ -8,6 +8,12 @@ public final class WriteTest {
         keepsTheText();
         answersCharacters();
         writesTheLongest();
+        writesLinesUpToTheLastWithASegment();
+        writesTables0And1();
+        takesTheColumnFromItsLineAlone();
+        takesTheRestFromTheLatestThatTells();
+        answersFromTheFirstToTheLast();
+        changesNothingElse();
         CHECK.finish();
     }
 
@@ -92,5 +98,83 @@ public final class WriteTest {
         CHECK.due("textAt(0)", Check.fetch(desk, 0), 'g');
         CHECK.due("textAt(5898)", Check.fetch(desk, 5898), 'G');
         CHECK.due("textAt(5899)", Check.fetch(desk, 5899), Check.THROWS);
+    }
+
+    // "its lines up to the last one with a segment, ; between; a line's segments, , between"
+    private static void writesLinesUpToTheLastWithASegment() {
+        for (int line : new int[] {0, 1, 2, 198, 199}) {
+            MappingDesk desk = new MappingDesk();
+            desk.put(0, line, 0, -1, 0, 0, 0);
+            CHECK.due("one on line " + line, Check.written(desk, 0), ";".repeat(line) + "A");
+            desk.put(0, line, 1, -1, 0, 0, 0);
+            CHECK.due("two on line " + line, desk.write(0), line + 3);
+            CHECK.due("between", Check.fetch(desk, line + 1), ',');
+            CHECK.due("behind", Check.fetch(desk, line + 3), Check.THROWS);
+        }
+        MappingDesk desk = new MappingDesk();
+        CHECK.due("a table without a segment", desk.write(0), 0);
+        Check.read(desk, 0, ";;;");
+        CHECK.due("empty lines alone", desk.write(0), 0);
+        Check.read(desk, 0, ";A;;");
+        CHECK.due("empty lines behind", Check.written(desk, 0), ";A");
+    }
+
+    private static void writesTables0And1() {
+        MappingDesk desk = new MappingDesk();
+        desk.put(0, 0, 0, -1, 0, 0, 0);
+        desk.put(1, 1, 0, -1, 0, 0, 0);
+        int[] due = {MappingDesk.NONE, MappingDesk.NONE, 1, 2, MappingDesk.NONE, MappingDesk.NONE};
+        for (int table = -2; table <= 3; table++) {
+            CHECK.due("write(" + table + ")", desk.write(table), due[table + 2]);
+            CHECK.due("the text then", Check.wholeText(desk), table < 0 ? "" : table == 0 ? "A" : ";A");
+        }
+    }
+
+    // "its column less that of the segment ahead in its line (0 at first)"
+    private static void takesTheColumnFromItsLineAlone() {
+        MappingDesk desk = new MappingDesk();
+        desk.put(0, 0, 5, -1, 0, 0, 0);
+        desk.put(0, 0, 5, 0, 0, 0, -1);
+        desk.put(0, 0, 6, -1, 0, 0, 0);
+        desk.put(0, 1, 0, -1, 0, 0, 0);
+        desk.put(0, 3, 7, -1, 0, 0, 0);
+        CHECK.due("written", Check.written(desk, 0), "K,AAAA,C;A;;O");
+    }
+
+    // "less those of the latest segment ahead, on any line, that tells them (0 at first)"
+    private static void takesTheRestFromTheLatestThatTells() {
+        MappingDesk desk = new MappingDesk();
+        desk.put(0, 0, 0, -1, 0, 0, 0);
+        desk.put(0, 0, 1, 1, 2, 3, 4);
+        desk.put(0, 1, 0, -1, 0, 0, 0);
+        desk.put(0, 1, 1, 2, 3, 4, -1);
+        desk.put(0, 9, 0, -1, 0, 0, 0);
+        desk.put(0, 9, 0, 2, 3, 4, 5);
+        desk.put(0, 9, 0, 0, 0, 0, 0);
+        CHECK.due("written", Check.written(desk, 0), "A,CCEGI;A,CCCC;;;;;;;;A,AAAAC,AFHJL");
+    }
+
+    // "Character i of the text. NoSuchElementException: there is none."
+    private static void answersFromTheFirstToTheLast() {
+        for (int length = 0; length <= 3; length++) {
+            MappingDesk desk = new MappingDesk();
+            Check.read(desk, 0, length == 0 ? "" : ";".repeat(length - 1) + "E");
+            CHECK.due("textAt(0) ahead of a write", Check.fetch(desk, 0), Check.THROWS);
+            CHECK.due("write(0)", desk.write(0), length);
+            for (int i = -2; i <= length + 1; i++) {
+                int due = i < 0 || i >= length ? Check.THROWS : i == length - 1 ? 'E' : ';';
+                CHECK.due("textAt(" + i + ") of " + length, Check.fetch(desk, i), due);
+            }
+        }
+    }
+
+    private static void changesNothingElse() {
+        MappingDesk desk = new MappingDesk();
+        Check.read(desk, 0, "A,C");
+        Check.read(desk, 1, "AAAA");
+        Check.read(desk, 0, "AA");
+        Check.tape(desk, "E,E");
+        CHECK.due("write(1)", desk.write(1), 4);
+        CHECK.due("state", Check.state(desk), "text AAAA fault 3 zero 2 A,C one 1 AAAA tape 2 0 E,E");
     }
 }
