@@ -20,6 +20,7 @@ public final class RefusedTest {
         refusesReadOfNoTable();
         refusesReadOfFaults();
         refusesPut();
+        refusesPutWithoutRoom();
         refusesWrite();
         refusesTextAt();
         refusesAsk();
@@ -117,7 +118,7 @@ public final class RefusedTest {
                 desk -> desk.put(table, line, column, source, sourceLine, sourceColumn, name), MappingDesk.NONE, ALL);
     }
 
-    // "NONE when it isn't as said, or no room" (TermsTest has the full table)
+    // "NONE when it isn't as said"
     private static void refusesPut() {
         for (int table : NO_TABLES) {
             putLeaves(table, 0, 0, 0, 0, 0, 0);
@@ -142,6 +143,26 @@ public final class RefusedTest {
             for (int name : new int[] {100, 101, MAX}) {
                 putLeaves(table, 0, 0, 0, 0, 0, name);
             }
+        }
+    }
+
+    // "or no room": a full table's text is too long to fetch, so its length and TermsTest stand for it.
+    private static void refusesPutWithoutRoom() {
+        for (int table = 0; table <= 1; table++) {
+            MappingDesk desk = used();
+            desk.end(0);
+            Check.readMany(desk, table, 300);
+            Check.read(desk, table, "AA");
+            Check.tape(desk, "G,CCCCC");
+            CHECK.due("put without room", desk.put(table, 0, 0, 1, 1, 1, 1), MappingDesk.NONE);
+            CHECK.due("put without room", desk.put(table, 199, 999999, -1, 0, 0, 0), MappingDesk.NONE);
+            CHECK.due("the text stays", Check.wholeText(desk), "CAAAA,I");
+            CHECK.due("the fault stays", desk.fault(), 3);
+            CHECK.due("the table stays", desk.size(table), 300);
+            CHECK.due("the table's text stays", desk.write(table), 599);
+            CHECK.due("the other table stays", Check.written(desk, 1 - table), table == 0 ? "CAAAA,I" : "ACEGI,C;;E");
+            CHECK.due("the tape stays", desk.read(table), 2);
+            CHECK.due("what it was", Check.written(desk, table), "G,CCCCC");
         }
     }
 
